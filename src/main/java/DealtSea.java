@@ -1717,7 +1717,7 @@ public final class DealtSea {
             Arrays.fill(by, UNSEEN);
             put(by, start, START);
             put(queue, 0, start);
-            int queued = 1;
+            int queued = canBe() ? 1 : 0;
             for (int head = 0; head < queued && head < STATES; head++) {
                 int state = look(queue, head);
                 if (isGoal(state)) {
@@ -1726,6 +1726,17 @@ public final class DealtSea {
                 }
                 queued = queueNext(state, queued);
             }
+        }
+
+        /** Spares looking through all states for cards that no places of the sea could hold together. */
+        private boolean canBe() {
+            int laid = (1 << count) - 1;
+            for (int p = 0; p < count; p++) {
+                if (cards == 1 || Integer.bitCount(look(near, p) & laid) >= cards - 1) {
+                    return true;
+                }
+            }
+            return false;
         }
 
         private int queueNext(int state, int queued) {
