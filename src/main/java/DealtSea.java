@@ -890,11 +890,8 @@ public final class DealtSea {
         /** Of each place of the sea the places beside it, as bits. */
         final int[] near = new int[MOST_CARDS];
 
+        /** The first line tells the rest anew. */
         void forget() {
-            wide = 0;
-            high = 0;
-            trumps = 0;
-            tide = 0;
             islands = 0;
             families = 0;
             wishPairs = 0;

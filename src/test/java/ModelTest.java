@@ -832,7 +832,7 @@ public final class ModelTest {
   }
 
   public static void main(String[] args) {
-    int runs = args.length > 0 ? Integer.parseInt(args[0]) : 1500;
+    int runs = args.length > 0 ? Integer.parseInt(args[0]) : 3000;
     for (int r = 0; r < runs; r++) {
       DealtSea x = new DealtSea();
       Model m = new Model();

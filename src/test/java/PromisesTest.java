@@ -675,6 +675,79 @@ public final class PromisesTest {
     due("best()", x.best(), 0);
   }
 
+  /** Two places of the sea, 1 and 4, are beside each other, with fish in both; any move parts them. */
+  private static void nothingIsBetter() {
+    DealtSea x = of("sea wide 3 high 2 trumps fish tide;island a plain salt rank 1 people 1;island b plain fish rank 1 people 1;island c plain wool rank 1 people 1;island d plain wool rank 1 people 1;island e plain fish rank 1 people 1");
+    due("trades()", x.trades(), 2);
+    promise = 35;
+    due("best(), out brings the two of wool there", x.best(), 0);
+    promise = 36;
+    due("bestTrades()", x.bestTrades(), 1);
+    promise = 37;
+    due("bestTwo(), out twice brings the fish back", x.bestTwo(), 0);
+    promise = 38;
+    due("exchange(), one that leaves them", x.exchange(), 2);
+  }
+
+  /** Rows of two and three moves, the first of the shortest. */
+  private static void longerRows() {
+    DealtSea x = of("sea wide 3 high 2 trumps fish calm;island a plain wool rank 1 people 1;island b plain fish rank 1 people 1;island c plain wool rank 1 people 1;island d plain fish rank 1 people 1");
+    promise = 32;
+    due("together(1, 3)", x.together(1, 3), 2);
+    promise = 33;
+    due("togetherAt(1, 3, 0)", x.togetherAt(1, 3, 0), 0);
+    due("togetherAt(1, 3, 1)", x.togetherAt(1, 3, 1), 2);
+    refused(x, "togetherAt(1, 3, 2)", x.togetherAt(1, 3, 2), -1, 1);
+    promise = 40;
+    due("rests(2, 1)", x.rests(2, 1), 4);
+    promise = 41;
+    due("rest(2, 1)", x.rest(2, 1), 402);
+    x = of("sea wide 3 high 2 trumps fish tide" + times(6, ";island # plain salt rank 1 people 1"));
+    promise = 32;
+    due("together(0, 2)", x.together(0, 2), 3);
+    promise = 33;
+    due("togetherAt(0, 2, 0)", x.togetherAt(0, 2, 0), 0);
+    due("togetherAt(0, 2, 1)", x.togetherAt(0, 2, 1), 0);
+    due("togetherAt(0, 2, 2)", x.togetherAt(0, 2, 2), 4);
+    promise = 34;
+    due("three(0, 1, 2), only two places hang together", x.three(0, 1, 2), -2);
+    due("three(0, 2, 4) of six cards in a 2 by 2 sea", of("sea wide 2 high 2 trumps fish calm" + times(6, ";island # plain salt rank 1 people 1")).three(0, 2, 4), 2);
+  }
+
+  /** What was told earlier is forgotten, also two seas later. */
+  private static void seasInTurn() {
+    promise = 3;
+    DealtSea x = of("sea wide 4 high 3 trumps fish calm" + times(12, ";island # plain wool rank 9 people 0") + ";family x out;wish a b;shows 1 a");
+    due("trades()", x.trades(), 17);
+    tell(x, CROSS);
+    due("trades()", x.trades(), 5);
+    tell(x, CROSS.replace("tide", "calm"));
+    due("beside(4)", x.beside(4), 170);
+    due("beside(0)", x.beside(0), 10);
+    tell(x, TWO);
+    due("beside(0)", x.beside(0), 2);
+    tell(x, ACROSS);
+    int[] want = {6, 9, 9, 6};
+    for (int i = 0; i < 4; i++) due("beside(" + i + ")", x.beside(i), want[i]);
+    due("size(5)", x.size(5), 0);
+    due("size(6)", x.size(6), 0);
+    due("size(7)", x.size(7), 0);
+  }
+
+  private static void manyActs() {
+    promise = 48;
+    for (int acts = 1; acts <= 50; acts++) {
+      DealtSea x = of(FIVE);
+      for (int k = 0; k < acts; k++) x.deal(3);
+      int kept = Math.min(acts, 16);
+      for (int k = 1; k <= kept; k++) {
+        due("undo()", x.undo(), true);
+        due("card(0) behind " + acts + " cuts, " + k + " undone", x.card(0), (acts - k) % 5);
+      }
+      due("undo()", x.undo(), false);
+    }
+  }
+
   private static void game() {
     DealtSea x = of(ACROSS);
     promise = 39;
@@ -944,6 +1017,10 @@ public final class PromisesTest {
     places();
     fewestMoves();
     best();
+    nothingIsBetter();
+    longerRows();
+    seasInTurn();
+    manyActs();
     game();
     decades();
     acts();
