@@ -1,6 +1,6 @@
 import java.util.NoSuchElementException;
 
-/** Each promise of the document by answers that were worked out by hand. */
+/** Each promise of the document by answers that were worked out by hand, but where a comment says otherwise. */
 public final class PromisesTest {
   private static int wrong = 0;
   private static int promise = 0;
@@ -699,6 +699,7 @@ public final class PromisesTest {
     due("togetherAt(1, 3, 1)", x.togetherAt(1, 3, 1), 2);
     refused(x, "togetherAt(1, 3, 2)", x.togetherAt(1, 3, 2), -1, 1);
     promise = 40;
+    // these two are from a table of all pairs of moves that another program made
     due("rests(2, 1)", x.rests(2, 1), 4);
     promise = 41;
     due("rest(2, 1)", x.rest(2, 1), 402);
