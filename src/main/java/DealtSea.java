@@ -247,7 +247,7 @@ public final class DealtSea {
         int rows = rowsOfMoves(k);
         int found = 0;
         for (int row = 0; row < rows; row++) {
-            if (rowFits(row, rows)) {
+            if (rowFits(row, k)) {
                 found++;
             }
         }
@@ -267,8 +267,8 @@ public final class DealtSea {
         makePlan(told.families);
         int rows = rowsOfMoves(k);
         for (int row = 0; row < rows; row++) {
-            if (rowFits(row, rows)) {
-                return answer(moveOfRow(row, rowsOfMoves(k - 1 - i)));
+            if (rowFits(row, k)) {
+                return answer(moveOfRow(row, k - 1 - i));
             }
         }
         return answer(NEVER);
@@ -687,12 +687,11 @@ public final class DealtSea {
     }
 
     /** A row of moves is a number whose digits are the moves: so rows count up in their order. */
-    private boolean rowFits(int row, int rows) {
-        int moves = movesOf(told.islands);
+    private boolean rowFits(int row, int k) {
         for (int s = 0; s < told.shows; s++) {
             int place = trial.placeOf(look(told.showIslands, s));
-            for (int unit = moves > 1 ? rows / moves : 0; unit >= 1; unit /= moves) {
-                place = goesTo(moveOfRow(row, unit), place, told.islands);
+            for (int behind = k - 1; behind >= 0; behind--) {
+                place = goesTo(moveOfRow(row, behind), place, told.islands);
             }
             if (place != look(told.showPlaces, s)) {
                 return false;
@@ -701,9 +700,17 @@ public final class DealtSea {
         return true;
     }
 
-    private int moveOfRow(int row, int unit) {
+    /** The move that has so many behind it in its row. */
+    private int moveOfRow(int row, int behind) {
         int moves = movesOf(told.islands);
-        return unit < 1 || moves < 1 ? NEVER : row / unit % moves;
+        if (moves < 1) {
+            return NEVER;
+        }
+        int left = row;
+        for (int m = 0; m < behind; m++) {
+            left /= moves;
+        }
+        return left % moves;
     }
 
     private int placesNext(int places) {

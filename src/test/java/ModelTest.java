@@ -806,7 +806,12 @@ public final class ModelTest {
     }
   }
 
+  /** Calls on the object at hand: behind 512 its answers are free. */
+  private static int used = 0;
+
   private static void both(DealtSea x, Model m, String name, int[] a, List<String> run) {
+    used += 4;
+    if (used > 512) return;
     long got = real(x, name, a);
     long due = m.call(name, a);
     asked.merge(name, 1, Integer::sum);
@@ -836,6 +841,7 @@ public final class ModelTest {
     for (int r = 0; r < runs; r++) {
       DealtSea x = new DealtSea();
       Model m = new Model();
+      used = 0;
       List<String> run = new ArrayList<>();
       int texts = roll(1, 4);
       for (int t = 0; t < texts; t++) {
@@ -851,6 +857,7 @@ public final class ModelTest {
     for (int r = 0; r < 20 * runs; r++) {
       DealtSea x = new DealtSea();
       Model m = new Model();
+      used = 0;
       tell(x, m, spoilt(randomText()), new ArrayList<>());
     }
     for (String name : CALLS) if (!asked.containsKey(name)) { wrong++; System.out.println(name + " was never asked"); }
