@@ -358,6 +358,32 @@ public final class CallEdgesTest {
     due("runAt(1)", y.runAt(1), 0);
   }
 
+  private static void runAtOfIslandsInTheSea() {
+    // a b / c d and e f aside; 1 2 hang together, then they lie aside, where no run is
+    DealtSea x = of(head(2, 2, "calm") + islands("pf1", "pf2", "pf5", "pf8", "pf3", "pf7"));
+    due("run()", x.run(), 2);
+    due("runAt(0)", x.runAt(0), 0);
+    x.deal(2);
+    // f e / d c: 7 3 / 8 5
+    due("run() turned", x.run(), 2);
+    due("runAt(0) turned", x.runAt(0), 5);
+    due("runAt(1) turned", x.runAt(1), 3);
+    DealtSea y = of(head(2, 2, "calm") + islands("pf1", "pf2", "pf5", "pf8", "pf3", "pf1"));
+    y.runAt(0);
+    y.deal(2);
+    // f e / d c: 1 3 / 8 5: runs of one; a and b are aside
+    due("run() turned", y.run(), 1);
+    due("runAt(0), the first in the sea", y.runAt(0), 2);
+    y.undo();
+    y.palm(0);
+    // b c / d e: 2 5 / 8 3, a is palmed
+    due("run() behind a palm", y.run(), 1);
+    due("runAt(0), not the palmed one", y.runAt(0), 1);
+    // a joker first
+    DealtSea z = of(head(2, 2, "calm") + islands("jf1", "pf5", "pf9"));
+    due("runAt(0), not the joker", z.runAt(0), 1);
+  }
+
   // ---- journeys
 
   private static void jokersAreNotGoneThrough() {
@@ -534,6 +560,48 @@ public final class CallEdgesTest {
     DealtSea empty = of(head(2, 2, "calm") + alike(2, "ps1") + ";shows 2 b");
     for (int k = 0; k <= 3; k++) { int rows = k; yes(empty, "fits(" + k + "), a place without a card", 0, () -> empty.fits(rows)); }
     yes(empty, "fitAt(3, 0), none", -2, () -> empty.fitAt(3, 0));
+  }
+
+  private static void fitsByDealing() {
+    // of five cards, c at 1 and a at 3: which moves bring them there, by trying each
+    for (String shows : new String[] {";shows 1 c", ";shows 3 a;shows 1 c", ";shows 2 e;shows 0 b", ";shows 3 d"}) {
+      String text = head(2, 2, "calm") + alike(5, "ps1");
+      String[] parts = shows.substring(1).split(";");
+      DealtSea x = of(text + shows);
+      DealtSea dealt = of(text);
+      int one = 0, first = -2, two = 0, pair = -2;
+      for (int a = 0; a < 7; a++) {
+        dealt.deal(a);
+        if (areSo(dealt, parts) && one++ == 0) first = a;
+        for (int b = 0; b < 7; b++) {
+          dealt.deal(b);
+          if (areSo(dealt, parts) && two++ == 0) pair = 100 * a + b;
+          dealt.undo();
+        }
+        dealt.undo();
+      }
+      int ones = one, firsts = first, twos = two, pairs = pair;
+      yes(x, "fits(1) of " + shows, ones, () -> x.fits(1));
+      yes(x, "fitAt(1, 0) of " + shows, firsts, () -> x.fitAt(1, 0));
+      yes(x, "fits(2) of " + shows, twos, () -> x.fits(2));
+      yes(x, "fitAt(2, ..) of " + shows, pairs, () -> pairs == -2 ? x.fitAt(2, 0) : 100 * x.fitAt(2, 0) + x.fitAt(2, 1));
+    }
+  }
+
+  private static boolean areSo(DealtSea x, String[] shows) {
+    for (String line : shows) if (x.card(line.charAt(6) - '0') != line.charAt(8) - 'a') return false;
+    return true;
+  }
+
+  private static void fitsBehindThePlan() {
+    // cut 1 is the plan: b c d e a; a turn more brings a e d c b
+    DealtSea x = of(plan(5, "cut 1") + ";shows 1 e");
+    yes(x, "fits(0)", 0, () -> x.fits(0));
+    // e lies at 3 behind the plan: out brings it to 1, in to 2, a turn to 1, cuts to 2, 1, 0, 4
+    yes(x, "fits(1)", 3, () -> x.fits(1));
+    yes(x, "fitAt(1, 0)", 0, () -> x.fitAt(1, 0));
+    x.deal(1);
+    yes(x, "fits(1), the deck as told", 3, () -> x.fits(1));
   }
 
   private static void fitAtRefused() {
@@ -741,6 +809,60 @@ public final class CallEdgesTest {
     for (int far : FAR) no(x, "moveAt(0, 1, " + far + ")", 1, () -> x.moveAt(0, 1, far));
   }
 
+  /** One object searches for one, two and three cards in turn, and answers as a new one does. */
+  private static void searchesInTurn() {
+    for (String size : new String[] {head(3, 2, "tide"), head(2, 2, "calm"), head(3, 3, "tide")}) {
+      String text = size + alike(7, "ps1");
+      DealtSea x = of(text);
+      for (int i = 0; i < 7; i++) {
+        int j = (i + 3) % 7, k = (i + 5) % 7;
+        due("fewest(" + i + ", " + j + ")", x.fewest(i, j), of(text).fewest(i, j));
+        due("together(" + i + ", " + j + ")", x.together(i, j), of(text).together(i, j));
+        due("moveAt(" + i + ", " + j + ", 0)", x.moveAt(i, j, 0), of(text).moveAt(i, j, 0));
+        due("three(" + i + ", " + j + ", " + k + ")", x.three(i, j, k), of(text).three(i, j, k));
+        due("togetherAt(" + i + ", " + k + ", 0)", x.togetherAt(i, k, 0), of(text).togetherAt(i, k, 0));
+        due("fewest(" + i + ", " + k + ")", x.fewest(i, k), 1);
+      }
+    }
+  }
+
+  /** What moves a search tells are made: behind them, and not earlier, the two lie beside each other. */
+  private static void togetherByDealing() {
+    for (String size : new String[] {head(3, 2, "tide"), head(2, 3, "tide"), head(3, 3, "tide"), head(2, 2, "calm"), head(4, 2, "calm")}) {
+      for (int n = 6; n <= 12; n += 3) {
+        DealtSea x = of(size + alike(n, "ps1"));
+        for (int i = 1; i < n; i++) {
+          int length = x.together(0, i);
+          if (n == 9 && neverOfNine(size, i)) { due("together(0, " + i + ") in " + size + " of 9", length, -2); continue; }
+          int[] moves = new int[Math.max(length, 0)];
+          for (int k = 0; k < moves.length; k++) moves[k] = x.togetherAt(0, i, k);
+          for (int k = 0; k < moves.length; k++) { due("apart behind " + k + " moves", x.beside(0) >> i & 1, 0); x.deal(moves[k]); }
+          due("together(0, " + i + ") in " + size + " of " + n, x.beside(0) >> i & 1, 1);
+          for (int k = 0; k < moves.length; k++) x.undo();
+        }
+      }
+    }
+  }
+
+  /** How far apart two of nine cards lie is doubled or turned round, by nine, by each move: threes stay threes. */
+  private static boolean neverOfNine(String size, int apart) {
+    if (size.equals(head(3, 3, "tide"))) return false;
+    // at this tide only places 1 and 4 are beside each other, in other seas here only such that are 1, 2 or 4 apart
+    return size.equals(head(3, 2, "tide")) ? apart % 3 != 0 : apart % 3 == 0;
+  }
+
+  private static void togetherNeverThoughOthersDo() {
+    DealtSea x = salt(9, 2, 2);
+    yes(x, "together(0, 3)", -2, () -> x.together(0, 3));
+    no(x, "togetherAt(0, 3, 0)", 1, () -> x.togetherAt(0, 3, 0));
+    yes(x, "together(4, 5)", 1, () -> x.together(4, 5));
+    yes(x, "together(8, 2)", -2, () -> x.together(8, 2));
+    yes(x, "three(0, 3, 6)", -2, () -> x.three(0, 3, 6));
+    yes(x, "three(0, 3, 1), by the other two pairs", 0, () -> x.three(0, 3, 1));
+    yes(x, "three(0, 1, 2)", 0, () -> x.three(0, 1, 2));
+    yes(x, "together(0, 3)", -2, () -> x.together(0, 3));
+  }
+
   private static void fewestRefused() {
     DealtSea x = salt(3, 2, 2);
     for (int far : FAR) {
@@ -880,6 +1002,81 @@ public final class CallEdgesTest {
     deckIs("exchange()", x, row(12, p -> p));
     DealtSea two = of(head(2, 2, "calm") + islands("ps1", "ps1"));
     yes(two, "exchange() of two", 1, two::exchange);
+  }
+
+  private static final String[][] SEAS = {
+    // two moves can do less here than one: no MOVE leaves the deck as it is
+    {head(4, 2, "tide"), "pf1", "js1", "js1", "pf1", "mf1", "jf1"},
+    {head(4, 3, "tide"), "ms1", "mf1", "mf1", "js1", "ps1", "jf1", "js1"},
+    {head(3, 3, "tide"), "js1", "jf1", "ps1", "ps1", "js1", "ps1", "js1"},
+    {head(3, 3, "tide"), "mf1", "mf1", "jf1", "jf1", "js1", "ms1"},
+    {head(4, 3, "tide"), "js1", "ms1", "js1", "mf1", "ps1", "mf1"},
+    {head(2, 2, "calm"), "ms1", "jf1", "jf1", "mf1", "js1", "js1", "ms1", "jf1"},
+    {head(2, 3, "calm"), "ms1", "js1", "js1", "js1", "jf1", "pf1", "ps1", "jf1"},
+    {head(2, 2, "calm"), "pf1", "pf1"},
+  };
+
+  private static DealtSea of(String[] sea) { return of(sea[0] + islands(java.util.Arrays.copyOfRange(sea, 1, sea.length))); }
+
+  private static void bestByDealing() {
+    for (String[] sea : SEAS) {
+      DealtSea x = of(sea);
+      int most = -1, first = -1;
+      for (int m = 0; m < x.size(9); m++) {
+        int sum = x.deal(m);
+        x.undo();
+        if (sum > most) { most = sum; first = m; }
+      }
+      due("best() of " + String.join(" ", sea), x.best(), first);
+      due("bestTrades() of " + String.join(" ", sea), x.bestTrades(), most);
+    }
+  }
+
+  private static void bestTwoByDealing() {
+    int later = 0;
+    for (String[] sea : SEAS) {
+      DealtSea x = of(sea);
+      int most = -1, first = -1;
+      for (int a = 0; a < x.size(9); a++) {
+        x.deal(a);
+        for (int b = 0; b < x.size(9); b++) {
+          int sum = x.deal(b);
+          x.undo();
+          if (sum > most) { most = sum; first = 100 * a + b; }
+        }
+        x.undo();
+      }
+      due("bestTwo() of " + String.join(" ", sea), x.bestTwo(), first);
+      if (first >= 200) later++;
+    }
+    due("some of them don't begin with out or in", later >= 3 ? 1 : 0, 1);
+  }
+
+  private static void exchangeByTelling() {
+    for (String[] sea : SEAS) {
+      int most = -1, first = -1;
+      for (int p = 1; p < sea.length; p++) {
+        for (int q = p + 1; q < sea.length; q++) {
+          String[] changed = sea.clone();
+          changed[p] = sea[q];
+          changed[q] = sea[p];
+          int sum = of(changed).trades();
+          if (sum > most) { most = sum; first = 100 * (p - 1) + q - 1; }
+        }
+      }
+      due("exchange() of " + String.join(" ", sea), of(sea).exchange(), first);
+    }
+  }
+
+  private static void exchangeBehindAPalm() {
+    // b c d are left, with one of salt alone: no exchange brings a trade
+    DealtSea x = of(head(2, 2, "calm") + islands("js1", "js1", "js1", "ps1"));
+    x.palm(0);
+    yes(x, "exchange() of three", 1, x::exchange);
+    DealtSea y = of(head(2, 2, "calm") + islands("ps1", "js1", "js1", "ps1"));
+    y.palm(0);
+    yes(y, "exchange(), the palmed one has no place", 1, y::exchange);
+    due("bestTrades(), the palmed one has no place", y.bestTrades(), 0);
   }
 
   private static void bestLeavesTheDeck() {

@@ -222,6 +222,27 @@ public final class TextEdgesTest {
     due("card(0)", x.card(0), 0);
   }
 
+  /** What an earlier text told is forgotten, however many texts lie between. */
+  private static void earlierTextsAreForgotten() {
+    String full = WIDE + lines(12, ISLAND) + ";family x out;family y in;wish a b;wish b c;wish c d;wish d e;wish e f;wish f g;shows 0 b;shows 1 b";
+    String bare = WIDE + lines(3, ISLAND);
+    for (int between = 0; between < 4; between++) {
+      DealtSea x = sound(full, 12);
+      for (int k = 0; k <= between; k++) due("a text between", tell(x, k % 2 == 0 ? bare : full), k % 2 == 0 ? 3 : 12);
+      due("another text", tell(x, bare), 3);
+      due("wishes()", x.wishes(), 0);
+      due("decadeWishes(0, 50)", x.decadeWishes(0, 50), 0);
+      due("judge()", x.judge(), -2);
+      due("again()", x.again(), 1);
+      due("fits(1)", x.fits(1), 5);
+      due("trades()", x.trades(), 4);
+      due("the same wish as in another text", tell(x, bare + ";wish a b"), 3);
+      due("wishes()", x.wishes(), 1);
+      due("the same wish once more", tell(x, bare + ";wish b a"), 3);
+      due("the same names once more", tell(x, bare + ";family x out"), 3);
+    }
+  }
+
   // ---- tokens
 
   private static void blanksMeanNothingElse() {
@@ -521,6 +542,30 @@ public final class TextEdgesTest {
     tell(x, PAIR + ";wish a ");
     due("names of a faulty text", tell(x, HEAD + ";wish a b"), -1);
     due("fault()", x.fault(), 2);
+  }
+
+  private static void namesOfAFullSea() {
+    String families = lines(10, "family f# out");
+    String full = WIDE + families + lines(12, ISLAND);
+    due("size(6)", sound(full + ";wish a l;wish k l", 12).size(6), 2);
+    due("size(7)", sound(full + ";shows 11 l", 12).size(7), 1);
+    String turned = WIDE + lines(12, ISLAND) + lines(9, "family f# out");
+    faultyAt(turned + ";family ", "l", 3);
+    faultyAt(turned + ";family fj out;wish l ", "fj", 2);
+    faultyAt(turned + ";family fj out;wish l ", "fk", 2);
+  }
+
+  /** The word ahead must not stand for one that lacks. */
+  private static void aNameIsNoKindAndNoMove() {
+    for (String token : new String[] {"3", ";", "!"}) {
+      faultyAt(HEAD + ";island plain ", token, 1);
+      faultyAt(HEAD + ";island joker ", token, 1);
+      faultyAt(PAIR + ";family out ", token, 1);
+      faultyAt(PAIR + ";family cut ", token, 1);
+    }
+    faulty(HEAD + ";island plain", 1, HEAD.length() + 13);
+    faulty(PAIR + ";family out", 1, PAIR.length() + 11);
+    faulty(PAIR + ";family cut", 1, PAIR.length() + 11);
   }
 
   // ---- faults
